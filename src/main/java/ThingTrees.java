@@ -287,9 +287,9 @@ public final class ThingTrees {
         }
         int length = fillWalk(top);
         top.unlink();
-        things[top.number] = null;
+        discard(top);
         int gone = 1;
-        for (int i = 1; i < length; i++) {
+        for (int i = 1; i < length && i < walked.length; i++) {
             Thing t = find(walked[i]);
             if (t != null && isHolderGone(t)) {
                 gone += loseHeld(t);
@@ -474,8 +474,14 @@ public final class ThingTrees {
             comeNowhere(t);
             return 0;
         }
-        things[t.number] = null;
+        discard(t);
         return 1;
+    }
+
+    private void discard(Thing t) {
+        if (t.number >= 0 && t.number < things.length) {
+            things[t.number] = null;
+        }
     }
 
     private boolean hasLight(Thing p) {
@@ -589,7 +595,7 @@ public final class ThingTrees {
         }
 
         boolean isSpreadTo(Thing room) {
-            return (rooms >> room.number & 1) == 1;
+            return (rooms & 1 << room.number) != 0;
         }
 
         boolean isFull() {
@@ -688,7 +694,7 @@ public final class ThingTrees {
                 return APART;
             }
             Thing bar = firstBarUp(p, turn, sight);
-            if (bar == null && t.kind != SCENE) {
+            if (bar == null) {
                 bar = firstBarDown(p, turn, t, sight);
             }
             return bar == null ? DONE : BARRED - bar.number;
@@ -716,7 +722,10 @@ public final class ThingTrees {
             return null;
         }
 
-        /** Goes against the route, from t up, so the bar found last is the route's first. */
+        /**
+         * Goes against the route, from t up, so the bar found last is the route's first. A SCENE
+         * has no holder, and so no step that could be barred.
+         */
         private static Thing firstBarDown(Thing p, Thing turn, Thing t, boolean sight) {
             Thing bar = null;
             for (Thing held = t; held != null && held != turn; held = held.holder) {

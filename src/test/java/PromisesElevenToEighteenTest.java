@@ -22,6 +22,7 @@ public final class PromisesElevenToEighteenTest {
         loseOne();
         loseWithParts();
         loseInTheOrderOfTheWalk();
+        loseAllThatCanBeMade();
         DUE.end();
     }
 
@@ -522,5 +523,25 @@ public final class PromisesElevenToEighteenTest {
         DUE.place("the tea stays in the cup", x, tea, cup, 0);
         DUE.walk("after", x, room, room);
         DUE.is("NOWHERE", x.told(2), 4);
+    }
+
+    private static void loseAllThatCanBeMade() {
+        ThingTrees x = new ThingTrees();
+        for (int t = 0; t < 20; t++) {
+            x.thing(1, 0);
+            x.part(t, t - 1);
+        }
+        DUE.is("a chain of 20 parts", x.lose(0), 20);
+        DUE.is("things", x.told(0), 0);
+        DUE.is("none is NOWHERE", x.told(2), 0);
+        DUE.is("19 came, and going is no change", x.told(1), 19);
+        x.clear();
+        for (int t = 0; t < 20; t++) {
+            x.thing(2, 1);
+            x.move(t, Math.max(0, t - 1), 0);
+        }
+        DUE.is("a chain of 20 boxes", x.lose(0), 1);
+        DUE.row("the next one", x, 0, 1, 0, -8, -8);
+        DUE.is("with all that is under it", x.count(1), 18);
     }
 }
