@@ -19,6 +19,7 @@ public final class PromisesNineteenToThirtyTest {
         rows();
         rowsThatAreKept();
         tallies();
+        theLastCallThatIsPromised();
         DUE.end();
     }
 
@@ -483,5 +484,18 @@ public final class PromisesNineteenToThirtyTest {
         for (int wrong : new int[] {-1, 3, Integer.MAX_VALUE, Integer.MIN_VALUE}) {
             DUE.is("told(" + wrong + ")", x.told(wrong), -2);
         }
+    }
+
+    /** 512 calls: what later ones answer is free. */
+    private static void theLastCallThatIsPromised() {
+        ThingTrees x = new ThingTrees();
+        int room = x.thing(0, 9);
+        int hall = x.thing(0, 9);
+        int coin = x.thing(1, 0);
+        for (int n = 1; n <= 507; n++) {
+            x.move(coin, n % 2 == 0 ? room : hall, 0);
+        }
+        DUE.is("the 511th call: the 30th latest change", x.row(29, 2), room);
+        DUE.is("the 512th call: all changes", x.told(1), 507);
     }
 }
